@@ -1,4 +1,3 @@
-import java.util.Arrays;
 import java.util.NoSuchElementException;
 
 /** A valley in which a coin may go to nobody whose name is on its rim, told as a text. */
@@ -1240,6 +1239,19 @@ public final class RimCoins {
             }
         }
 
+        /** Whether roads, one behind another, lead from a WHO'S VILLAGE to another one's. */
+        boolean roadsLead(int a, int b) {
+            int found = has(a) ? 1 << village[a] : 0;
+            for (int round = 1; round < VILLAGES; round++) {
+                for (int v = 0; v < VILLAGES; v++) {
+                    if ((found >>> v & 1) != 0) {
+                        found |= nearTo[v];
+                    }
+                }
+            }
+            return has(b) && (found >>> village[b] & 1) != 0;
+        }
+
         int roads() {
             int ends = 0;
             for (int v = 0; v < VILLAGES; v++) {
@@ -1278,6 +1290,10 @@ public final class RimCoins {
             return NONE;
         }
 
+        int houseOf(int w) {
+            return has(w) ? house[w] : 0;
+        }
+
         void marry(int a, int b) {
             if (has(a) && has(b)) {
                 house[a] |= 1 << b;
@@ -1303,10 +1319,8 @@ public final class RimCoins {
 
         /** To whom a COIN of an owner with a rim GOES, as bits. */
         int goers(int owner, int rim) {
-            if (!has(owner) || !isVillage(village[owner])) {
-                return 0;
-            }
-            return reach[village[owner]] & ~(house[owner] | housesOn(rim));
+            int v = has(owner) ? village[owner] : NONE;
+            return v >= 0 && v < VILLAGES ? reach[v] & ~(house[owner] | housesOn(rim)) : 0;
         }
 
         int whyNot(int owner, int rim, int w) {
@@ -1402,11 +1416,7 @@ public final class RimCoins {
 
         /** The rim with its owner's name on it, as the COIN has gone. */
         int rimAfter(int from, int old) {
-            return (old << NAME_BITS | from + 1) & wholeRim();
-        }
-
-        private int wholeRim() {
-            return (1 << NAME_BITS * rimSize) - 1;
+            return (old << NAME_BITS | from + 1) & (1 << NAME_BITS * rimSize) - 1;
         }
 
         void move(int c, int w) {
@@ -1427,7 +1437,7 @@ public final class RimCoins {
         void shorten(int r) {
             rimSize = r;
             for (int c = 0; c < size; c++) {
-                rim[c] &= wholeRim();
+                rim[c] &= (1 << NAME_BITS * r) - 1;
             }
         }
 
@@ -1662,14 +1672,21 @@ public final class RimCoins {
                 return NONE;
             }
             long going = purse.goingTo(folk, a, b);
-            Arrays.fill(weights, 0L);
-            weights[0] = NO_COINS;
+            startAt(weights, sum);
             for (int c = 0; c < purse.size; c++) {
                 if ((going >>> c & 1L) != 0L) {
                     addCoin(c, purse.value[c], sum);
                 }
             }
             return take(weights[sum]);
+        }
+
+        /** No more is cleared than is used: orders() comes here some hundred times. */
+        private static void startAt(long[] row, int last) {
+            for (int i = 1; i <= last && i < row.length; i++) {
+                row[i] = 0L;
+            }
+            row[0] = NO_COINS;
         }
 
         private void addCoin(int c, int value, int sum) {
@@ -1699,8 +1716,7 @@ public final class RimCoins {
             if (n < 1 || n > MOST_DAY_SUM || m < 1 || m > MOST_DAY_SUM) {
                 return NONE;
             }
-            Arrays.fill(dayWeights, 0L);
-            dayWeights[0] = NO_COINS;
+            startAt(dayWeights, n * DAY_SUMS + m);
             for (int c = 0; c < purse.size; c++) {
                 boolean first = (today >>> c & 1L) != 0L;
                 boolean second = (tomorrow >>> c & 1L) != 0L;
@@ -1715,14 +1731,15 @@ public final class RimCoins {
         private void addDayCoin(int c, int todays, int n, int tomorrows, int m) {
             for (int s = n; s >= 0; s--) {
                 for (int t = m; t >= 0; t--) {
-                    long weight = dayWeights[s * DAY_SUMS + t];
+                    int at = s * DAY_SUMS + t;
+                    long weight = dayWeights[at];
                     if (s >= todays) {
-                        weight = Math.max(weight, heavier(dayWeights[(s - todays) * DAY_SUMS + t], c));
+                        weight = Math.max(weight, heavier(dayWeights[at - todays * DAY_SUMS], c));
                     }
                     if (t >= tomorrows) {
-                        weight = Math.max(weight, dayWeights[s * DAY_SUMS + t - tomorrows]);
+                        weight = Math.max(weight, dayWeights[at - tomorrows]);
                     }
-                    dayWeights[s * DAY_SUMS + t] = weight;
+                    dayWeights[at] = weight;
                 }
             }
         }
@@ -1746,12 +1763,15 @@ public final class RimCoins {
         static final int STATE_MASK = (1 << STATE_BITS) - 1;
         /** Above what can be come to: 24 * 23 * 22 * 21 with four other names, 23 * 22 * 21 and less ahead of it. */
         static final int ROOM = 266240;
+        /** 64 numbers of states a word; a rim has 25 * 25 * 25 (an empty place counts, too). */
+        static final int WORDS = Folk.MOST * 15625 / 64 + 1;
         static final int LONGEST = 1024;
 
-        private final long[] seen = new long[1 << STATE_BITS - 6];
-        private final long[] open = new long[1 << STATE_BITS - 6];
+        private final long[] seen = new long[WORDS];
+        private final long[] open = new long[WORDS];
         /** States, and above each the place in the queue of that from which it was come to. */
         private final long[] queue = new long[ROOM];
+        private int people;
         private final int[] row = new int[LONGEST];
         private int rowSize;
         private final int[] allowed = new int[MOST_WAY];
@@ -1778,20 +1798,40 @@ public final class RimCoins {
             return valley.folk.goers(ownerOf(state), rimOf(state));
         }
 
+        /** As a state is when the COIN has gone on to a WHO; to another one it differs by his number alone. */
         private static int after(Valley valley, int state, int w) {
             return stateOf(w, valley.purse.rimAfter(ownerOf(state), rimOf(state)));
         }
 
-        private static boolean isIn(long[] set, int state) {
-            return (set[state >>> 6] >>> (state & 63) & 1L) != 0L;
+        /** States are numbered closely, so that little need be cleared where there are few people. */
+        private int codeOf(int state) {
+            int code = 0;
+            for (int shift = STATE_BITS - Purse.NAME_BITS; shift > 0; shift -= Purse.NAME_BITS) {
+                code = code * (people + 1) + (state >>> shift & Purse.NAME_MASK);
+            }
+            return code * people + ownerOf(state);
         }
 
-        private static void putIn(long[] set, int state) {
-            set[state >>> 6] |= 1L << (state & 63);
+        private void begin(Valley valley) {
+            people = valley.folk.size;
+            int words = people * (people + 1) * (people + 1) * (people + 1) / 64 + 1;
+            for (int i = 0; i < words && i < WORDS; i++) {
+                seen[i] = 0L;
+                open[i] = 0L;
+            }
         }
 
-        private static void takeFrom(long[] set, int state) {
-            set[state >>> 6] &= ~(1L << (state & 63));
+        private static boolean isIn(long[] set, int code) {
+            int word = code >> 6;
+            return word >= 0 && word < set.length && (set[word] >>> (code & 63) & 1L) != 0L;
+        }
+
+        private static void put(long[] set, int code, boolean in) {
+            int word = code >> 6;
+            if (word >= 0 && word < set.length) {
+                long bit = 1L << (code & 63);
+                set[word] = in ? set[word] | bit : set[word] & ~bit;
+            }
         }
 
         int goTo(Valley valley, int c, int w) {
@@ -1800,7 +1840,10 @@ public final class RimCoins {
                 rowSize = 0;
                 return 0;
             }
-            int last = valley.folk.isDead(w) ? NONE : spread(valley, start, w, NONE);
+            if (valley.folk.isDead(w) || !valley.folk.roadsLead(ownerOf(start), w)) {
+                return NONE;
+            }
+            int last = spread(valley, start, w, NONE);
             if (last == NONE) {
                 return NONE;
             }
@@ -1810,12 +1853,29 @@ public final class RimCoins {
         }
 
         int goRound(Valley valley, int c) {
-            if (valley.purse.names(c) < valley.purse.rimSize) {
-                return NONE; // a rim never has fewer names again
+            if (!canHaveCome(valley, c)) {
+                return NONE;
             }
             int start = stateNow(valley.purse, c);
             int last = spread(valley, start, ownerOf(start), start);
             return last == NONE ? NONE : steps(last) + 1;
+        }
+
+        /** As it is now it comes again only if its rim is full and each on it could have it from the next one. */
+        private static boolean canHaveCome(Valley valley, int c) {
+            Purse purse = valley.purse;
+            if (purse.names(c) < purse.rimSize || valley.forgery(c) != 0) {
+                return false;
+            }
+            int barred = valley.folk.dead | valley.folk.houseOf(purse.owner[c]);
+            for (int i = 0; i < purse.rimSize; i++) {
+                int name = purse.nameAt(c, i);
+                if ((barred >>> name & 1) != 0) {
+                    return false;
+                }
+                barred |= valley.folk.houseOf(name);
+            }
+            return true;
         }
 
         /**
@@ -1824,21 +1884,23 @@ public final class RimCoins {
          * that is found has the first row.
          */
         private int spread(Valley valley, int start, int w, int wanted) {
-            Arrays.fill(seen, 0L);
+            begin(valley);
             queue[0] = start;
-            putIn(seen, start);
+            put(seen, codeOf(start), true);
             int tail = 1;
             for (int head = 0; head < tail && head < ROOM; head++) {
                 int state = (int) queue[head] & STATE_MASK;
                 int whos = goers(valley, state);
-                if ((whos >>> w & 1) != 0 && (wanted == NONE || after(valley, state, w) == wanted)) {
+                int next = after(valley, state, 0);
+                if ((whos >>> w & 1) != 0 && (wanted == NONE || (next | w) == wanted)) {
                     return head;
                 }
+                int code = codeOf(next);
                 for (int left = whos; left != 0; left &= left - 1) {
-                    int next = after(valley, state, lowest(left));
-                    if (tail < ROOM && !isIn(seen, next)) {
-                        putIn(seen, next);
-                        queue[tail] = (long) head << STATE_BITS | next;
+                    int hand = lowest(left);
+                    if (tail < ROOM && !isIn(seen, code + hand)) {
+                        put(seen, code + hand, true);
+                        queue[tail] = (long) head << STATE_BITS | next | hand;
                         tail++;
                     }
                 }
@@ -1876,8 +1938,7 @@ public final class RimCoins {
 
         /** Goes as deep as it can: a state that is come to again from itself is a round without an end. */
         boolean goesForEver(Valley valley, int c) {
-            Arrays.fill(seen, 0L);
-            Arrays.fill(open, 0L);
+            begin(valley);
             int start = stateNow(valley.purse, c);
             enter(start, 0);
             int depth = 1;
@@ -1886,12 +1947,12 @@ public final class RimCoins {
                 int state = (int) queue[depth - 1] & STATE_MASK;
                 int w = nextHand(valley, state, from);
                 if (w == NONE) {
-                    takeFrom(open, state);
+                    put(open, codeOf(state), false);
                     from = ownerOf(state) + 1;
                     depth--;
                 } else {
                     int next = after(valley, state, w);
-                    if (isIn(open, next)) {
+                    if (isIn(open, codeOf(next))) {
                         return true;
                     }
                     enter(next, depth);
@@ -1903,33 +1964,35 @@ public final class RimCoins {
         }
 
         private void enter(int state, int depth) {
-            putIn(seen, state);
-            putIn(open, state);
-            queue[depth] = state;
+            if (depth >= 0 && depth < ROOM) {
+                put(seen, codeOf(state), true);
+                put(open, codeOf(state), true);
+                queue[depth] = state;
+            }
         }
 
         /** The least WHO not below a number, by whom a state is come to that is new or still open. */
         private int nextHand(Valley valley, int state, int from) {
+            int code = codeOf(after(valley, state, 0));
             for (int left = goers(valley, state) & -1 << from; left != 0; left &= left - 1) {
-                int w = lowest(left);
-                int next = after(valley, state, w);
-                if (!isIn(seen, next) || isIn(open, next)) {
-                    return w;
+                int hand = lowest(left);
+                if (!isIn(seen, code + hand) || isIn(open, code + hand)) {
+                    return hand;
                 }
             }
             return NONE;
         }
 
         int countWays(Valley valley, int c, int first, int n) {
-            hadSize = n;
-            Arrays.fill(hadBits, 0);
             Purse purse = valley.purse;
-            if (purse.names(c) != Math.min(purse.rimSize, n)) {
-                return 0;
-            }
+            hadSize = n;
             for (int i = 0; i < n && i < MOST_WAY; i++) {
                 int name = i == n - 1 ? purse.owner[c] : purse.nameAt(c, n - 2 - i);
                 allowed[i] = name == NONE ? -1 : 1 << name;
+                hadBits[i] = 0;
+            }
+            if (purse.names(c) != Math.min(purse.rimSize, n)) {
+                return 0;
             }
             return walk(valley, stateOf(first, 0), 0, stateNow(purse, c));
         }

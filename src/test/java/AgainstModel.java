@@ -332,8 +332,9 @@ public final class AgainstModel {
     for (int run = 0; run < runs; run++) {
       fresh();
       StringBuilder sb = new StringBuilder();
-      int whos = 9 + r(8);
-      sb.append("rim ").append(1 + r(2)).append(';');
+      int rim = 1 + r(3);
+      int whos = rim == 3 ? 5 + r(4) : 9 + r(8);
+      sb.append("rim ").append(rim).append(';');
       for (int i = 0; i < whos; i++) sb.append("who ").append((char) ('a' + i)).append(' ').append(r(4)).append(';');
       sb.append("road 0 1;road 1 2;");
       for (int i = 0; i < 6; i++) {
@@ -343,7 +344,7 @@ public final class AgainstModel {
       }
       feed(sb.toString());
       call("valley");
-      for (int i = 0; i < 4; i++) call("born", r(3));
+      for (int i = rim; i < 5; i++) call("born", r(3));
       call("wed", r(whos), r(whos));
       for (int i = 0; i < 6; i++) {
         call("hands", i, r(whos));
@@ -368,7 +369,7 @@ public final class AgainstModel {
     longTexts(1000 * times);
     heaps(30 * times);
     markets(300 * times);
-    crowds(6 * times);
+    crowds(9 * times);
     System.out.println(calls + " calls held against the model, " + wrong + " unlike");
     if (wrong != 0) System.exit(1);
   }

@@ -151,6 +151,7 @@ public final class Promises {
     fault(2, 6, "who a 4;");
     fault(2, 5, "road 4 1;");
     fault(2, 7, "road 1 9;");
+    fault(2, 7, "road 1 4;");
     fault(1, 6, "road 1;");
     fault(3, 7, "road 2 2;");
     fault(3, 16, "road 1 2;road 2 1;");
