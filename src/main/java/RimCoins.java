@@ -1132,7 +1132,7 @@ public final class RimCoins {
                 case NAMES:
                     return compares(purse.names(c), i);
                 case PLACE:
-                    return compares(valley.folk.village[purse.owner[c]], i);
+                    return compares(valley.folk.villageOf(purse.owner[c]), i);
                 default:
                     return false;
             }
@@ -1290,6 +1290,16 @@ public final class RimCoins {
             return NONE;
         }
 
+        int villageOf(int w) {
+            return has(w) ? village[w] : NONE;
+        }
+
+        void earn(int w, int sum) {
+            if (has(w)) {
+                earned[w] += sum;
+            }
+        }
+
         int houseOf(int w) {
             return has(w) ? house[w] : 0;
         }
@@ -1319,15 +1329,18 @@ public final class RimCoins {
 
         /** To whom a COIN of an owner with a rim GOES, as bits. */
         int goers(int owner, int rim) {
-            int v = has(owner) ? village[owner] : NONE;
-            return v >= 0 && v < VILLAGES ? reach[v] & ~(house[owner] | housesOn(rim)) : 0;
+            if (!has(owner)) {
+                return 0;
+            }
+            int v = village[owner];
+            return isVillage(v) ? reach[v] & ~(house[owner] | housesOn(rim)) : 0;
         }
 
         int whyNot(int owner, int rim, int w) {
             if (isDead(w)) {
                 return 1;
             }
-            if (has(owner) && (house[owner] >>> w & 1) != 0) {
+            if ((houseOf(owner) >>> w & 1) != 0) {
                 return 2;
             }
             if ((housesOn(rim) >>> w & 1) != 0) {
@@ -1586,7 +1599,7 @@ public final class RimCoins {
         }
 
         private boolean areNeighbours(int a, int b) {
-            return folk.has(a) && folk.has(b) && folk.areNear(folk.village[a], folk.village[b]);
+            return folk.areNear(folk.villageOf(a), folk.villageOf(b));
         }
 
         long stuckCoins() {
@@ -1604,7 +1617,7 @@ public final class RimCoins {
             long coins = stuckCoins();
             int freed = 0;
             for (int c = 0; c < purse.size; c++) {
-                if ((coins >>> c & 1L) != 0L && folk.areNear(village, folk.village[purse.owner[c]])) {
+                if ((coins >>> c & 1L) != 0L && folk.areNear(village, folk.villageOf(purse.owner[c]))) {
                     freed++;
                 }
             }
@@ -1631,7 +1644,7 @@ public final class RimCoins {
         void swap(int c, int d) {
             int customer = purse.owner[c];
             int stranger = purse.owner[d];
-            folk.earned[stranger] += purse.value[c] - purse.value[d];
+            folk.earn(stranger, purse.value[c] - purse.value[d]);
             purse.move(c, stranger);
             purse.move(d, customer);
         }

@@ -51,17 +51,17 @@ public final class Promises {
     is(kind, x.fault(), "fault of '" + text + "'");
     is(-1, x.said(-1), "said behind '" + text + "'");
   }
-  private static String many(String piece, int n) {
+  static String many(String piece, int n) {
     StringBuilder sb = new StringBuilder();
     for (int i = 0; i < n; i++) sb.append(piece);
     return sb.toString();
   }
-  private static String people(int n) {
+  static String people(int n) {
     StringBuilder sb = new StringBuilder();
     for (int i = 0; i < n; i++) sb.append("who ").append((char) ('a' + i)).append(';');
     return sb.toString();
   }
-  private static int orders(RimCoins x, int... debts) {
+  static int orders(RimCoins x, int... debts) {
     StringBuilder sb = new StringBuilder();
     for (int d : debts) sb.append((char) d);
     return feed(x, sb.toString()).orders();
