@@ -192,6 +192,27 @@ final class EdgesOfDays {
   }
 
   private static void orders() {
+    Edge.edge(36, "CLEARED: a DEBT is paid EXACT by him who owes it (once)", () -> {
+      RimCoins x = Promises.of("who a;who b;coin 5 a;coin 5 a;coin 3 a;coin 2 a;owes a b 5;owes a b 5;");
+      Edge.due(1, x.clear(0), "the fewest");
+      Edge.due(1, x.coin(0, 1), "the first");
+      Edge.due(0, x.coin(1, 1), "the second is kept");
+      Edge.due(-2, x.clear(0), "once more");
+      Edge.due(5, x.who(1, 5), "nothing more is paid");
+      Edge.due(1, x.clear(1), "its like");
+      Edge.due(10, x.who(1, 5), "twice 5");
+    });
+    Edge.edge(37, "one by one, those that can't be then are left out; the most that are CLEARED by any", () -> {
+      RimCoins x = Promises.of("rim 1;who a;who b;who c;coin 5 a;owes b c 5;owes a b 5;owes c a 5;owes a b 6;");
+      Edge.due(2, Promises.orders(x, 0, 1), "b can pay c only behind a");
+      int[] due = {1, 0};
+      for (int i = 0; i < 2; i++) Edge.due(due[i], x.orderAt(i), "orderAt(" + i + ")");
+      Edge.due(0, Promises.orders(x, 0), "b has nothing");
+      Edge.due(0, Promises.orders(x, 0, 2, 3), "nobody can");
+      Edge.due(3, Promises.orders(x, 3, 2, 0, 1), "round");
+      int[] round = {3, 1, 0, 2};
+      for (int i = 0; i < 4; i++) Edge.due(round[i], x.orderAt(i), "orderAt(" + i + ") of the round");
+    });
     Edge.edge(37, "BY AN ORDER of some DEBTS (1 to 5)", () -> {
       RimCoins x = Promises.of("who a;who b;" + Promises.many("coin 1 a;", 12) + Promises.many("owes a b 1;", 12));
       Edge.due(-1, Promises.orders(x), "none");
@@ -305,6 +326,23 @@ final class EdgesOfDays {
       Edge.due(1, x.ways(2, 3, 2), "two goes, two names");
       Edge.due(0, x.ways(2, 4, 1), "one go, two names");
       Edge.due(1, x.ways(2, 0, 3), "three goes, two names");
+    });
+    Edge.edge(39, "(by the PEOPLE, HOUSES, VILLAGES, DEAD as they are now)", () -> {
+      RimCoins x = Promises.of("rim 1;who a;who b;who c;who d;who e 1;coin 5 a b;");
+      Edge.due(2, x.ways(0, 0, 3), "over c or d, then b");
+      Edge.due(0b1100, x.had(0), "c or d");
+      x.road(0, 1);
+      Edge.due(3, x.ways(0, 0, 3), "over e, too");
+      Edge.due(0b11100, x.had(0), "c, d or e");
+      x.born(1);
+      Edge.due(4, x.ways(0, 0, 3), "over the child, too");
+      x.dies(3, 2);
+      Edge.due(3, x.ways(0, 0, 3), "not over d, who is DEAD");
+      x.wed(2, 1);
+      Edge.due(2, x.ways(0, 0, 3), "not over c, whose HOUSE is b's");
+      Edge.due(0b110000, x.had(0), "e or the child");
+      Edge.due(0b10, x.had(1), "b");
+      Edge.due(1, x.had(2), "a");
     });
     Edge.edge(40, "as bits (0: nobody)", () -> {
       RimCoins x = Promises.of("rim 1;who a;who b;who c 1;coin 5 a b;");
@@ -496,6 +534,22 @@ final class EdgesOfDays {
   }
 
   private static void trade() {
+    Edge.edge(43, "as DRAWN, but without the draws of 16", () -> {
+      String text = "rim 0;who a;who b;coin 5 a;";
+      for (int seed : SEEDS) {
+        RimCoins y = Promises.of(text);
+        int went = 0;
+        int[] x = {seed};
+        for (int day = 0; day < 100; day++) {
+          int payer = drawn(x, 2);
+          int payee = drawn(x, 2);
+          if (y.coin(0, 1) != payer) continue;
+          drawn(x, 1);
+          if (payer != payee && y.pay(0, payee) == 0) went++;
+        }
+        Edge.due(went, Promises.of(text).trade(0, 100, seed), "100 DAYS by " + seed);
+      }
+    });
     Edge.edge(43, "n DAYS (1 to 400): how many payments go; NONE: not as told, no WHOS, no COINS. Nothing is changed.", () -> {
       String text = "rim 3;who a;who b;who c;coin 5 a b c b;coin 6 b c;";
       RimCoins x = Promises.of(text);
@@ -534,6 +588,11 @@ final class EdgesOfDays {
       }
       Edge.yes(went > 0, "without a rim it goes");
     });
+  }
+
+  private static int drawn(int[] x, int n) {
+    x[0] = x[0] * 1103515245 + 12345;
+    return (x[0] >>> 8) % n;
   }
 
   private static void said() {

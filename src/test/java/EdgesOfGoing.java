@@ -376,6 +376,27 @@ final class EdgesOfGoing {
         Edge.due(-2, x.keep(0, 1, 1, 2, sum), "tomorrow " + sum);
       }
     });
+    Edge.edge(19, "such that of those he keeps some come tomorrow exactly to a sum for another one (each GOES to him as it is)", () -> {
+      RimCoins x = Promises.of("who a;who b;who c;coin 5 a c;coin 3 a;coin 2 a;coin 4 a b;");
+      Edge.due(1, x.keep(0, 1, 5, 2, 4), "the 4 alone of 3, 2 and 4");
+      Edge.due(1, x.given(0), "the 5, which does not GO to c");
+      Edge.due(1, x.keep(0, 1, 5, 2, 9), "3, 2 and 4");
+      Edge.due(-1, x.keep(0, 1, 5, 2, 8), "no three of them");
+      Edge.due(-1, x.keep(0, 1, 3, 2, 5), "not the 5, which does not GO to c");
+      Edge.due(-1, x.keep(0, 1, 4, 2, 5), "not the 4, which does not GO to b");
+      Edge.due(-1, x.keep(0, 1, 10, 2, 1), "nothing but the 4 is left");
+      Edge.due(3, x.keep(0, 1, 10, 2, 4), "all but the 4");
+    });
+    Edge.edge(19, "(sums 1 to 99)", () -> {
+      RimCoins x = Promises.of("who a;who b;coin 99 a;coin 1 a;coin 98 a;coin 2 a;");
+      Edge.due(1, x.keep(0, 1, 99, 1, 2), "99 and 2");
+      Edge.due(1, x.keep(0, 1, 1, 1, 99), "1 and 99");
+      Edge.due(1, x.keep(0, 1, 99, 1, 99), "99 and 98 with 1");
+      Edge.due(-2, x.keep(0, 1, 100, 1, 99), "100 today");
+      Edge.due(-2, x.keep(0, 1, 99, 1, 100), "100 tomorrow");
+      Edge.due(-2, x.keep(0, 1, 0, 1, 99), "0 today");
+      Edge.due(-2, x.keep(0, 1, 99, 1, 0), "0 tomorrow");
+    });
     Edge.edge(19, "NONE: it can't be; -2: no such ones (b, c may be the same)", () -> {
       RimCoins x = Promises.of("who a;who b;who c;coin 5 a;coin 3 a;coin 2 a c;");
       Edge.due(1, x.keep(0, 1, 5, 1, 5), "b twice");

@@ -773,14 +773,14 @@ public final class Promises {
       seed = 99;
       RimCoins y = of(text.replace("rim 2", "rim " + r).replace("a b c", r == 0 ? "a" : r == 1 ? "a b" : "a b c"));
       int went = 0;
-      for (int i = 0; i < 400; i++) {
+      for (int i = 0; i < 100; i++) {
         int from = draw(3), to = draw(3), n = y.who(from, 4);
         if (n == 0) continue;
         int k = draw(n), c = 0;
         for (; c < 2; c++) if (y.coin(c, 1) == from && k-- == 0) break;
         if (y.pay(c, to) == 0) went++;
       }
-      is(went, x.trade(r, 400, 99), "trade by " + r);
+      is(went, x.trade(r, 100, 99), "trade by " + r);
     }
     is(2, x.coin(0, 2), "nothing is changed");
     is(0, x.coin(1, 2), "nothing is changed");
