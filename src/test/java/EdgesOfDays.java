@@ -49,6 +49,9 @@ final class EdgesOfDays {
       row(z, 0, 0);
       z.pay(0, 0);
       row(z, 4, 1, 2, 3, 4);
+      row(Promises.of("rim 2;" + Promises.people(5) + "coin 5 e d;"), 3, 0, 1, 3);
+      row(Promises.of("rim 3;" + Promises.people(5) + "coin 5 e d;"), 3, 0, 1, 2, 3);
+      row(Promises.of("rim 1;who a 3;who b 3;who c 2;who d;who e 3;who f 1;road 0 1;road 0 2;road 2 3;coin 5 b c;"), 3, 0, 2, 3);
     });
     Edge.edge(31, "COIN c comes to WHO w: how many (0: it is his)", () -> {
       RimCoins x = Promises.of("who a;who b;who c;who d 2;coin 5 a b c d;");
@@ -116,6 +119,7 @@ final class EdgesOfDays {
       Edge.due(-1, x.again(2), "two of one HOUSE");
       Edge.due(-1, x.again(3), "again(3)");
       for (int c : Edge.NO_PLACES) Edge.due(-1, x.again(c), "again(" + c + ")");
+      Edge.due(3, Promises.of("rim 1;who a 2;who b;who c;who d;coin 5 c d;").again(0), "three of four");
       RimCoins y = Promises.of("rim 1;who a;who b;who c;who d;coin 5 a b;");
       Edge.due(3, y.again(0), "round");
       y.dies(1, 3);
@@ -145,6 +149,10 @@ final class EdgesOfDays {
       Edge.due(1, Promises.of(people + "road 0 1;coin 5 a;").ever(0), "by a road to the three");
       Edge.due(0, Promises.of("rim 1;who a 1;who b 1;road 0 1;who c 2;road 0 2;coin 5 a;").ever(0), "two and none behind");
       Edge.due(1, Promises.of("rim 0;who a;who b;coin 5 b;").ever(0), "by the first WHO");
+      Edge.due(1, Promises.of("rim 1;who a;who b 2;who c 1;who d 2;road 0 1;road 1 2;coin 5 c d;").ever(0), "a leads nowhere");
+      Edge.due(1, Promises.of("rim 2;who a;who b 2;who c;who d 3;who e 1;road 0 1;road 0 3;road 2 3;coin 5 c;").ever(0), "c, d, a, e");
+      Edge.due(0, Promises.of("rim 3;who a 2;who b 1;who c 2;who d 1;who e 1;who f 3;road 0 3;road 1 3;road 2 3;coin 5 c;").ever(0), "f once");
+      Edge.due(0, Promises.of("rim 3;who a 2;who b 1;who c 2;who d 1;who e 1;who f 3;road 0 3;road 1 3;road 2 3;coin 5 b;").ever(0), "f once");
       String behind = "rim 1;who a;who b 1;who c 2;who d 3;who e 3;road 0 1;road 0 2;";
       Edge.due(0, Promises.of(behind + "coin 5 a;").ever(0), "b and c lead nowhere");
       Edge.due(1, Promises.of(behind + "road 2 3;coin 5 a;").ever(0), "c leads on, where b does not");
